@@ -464,6 +464,7 @@ public final class PlanValues {
         }
 
         private void eliminate(int row, int pivot, long before) {
+            // Never so, as solve has it; but LANGUAGE.md wants each divisor looked at.
             if (before == 0) {
                 return;
             }
