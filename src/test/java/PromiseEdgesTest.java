@@ -10,6 +10,7 @@ public final class PromiseEdgesTest {
         promise1ObjectsOfTheirOwn();
         promise2ClearIsLikeNew();
         promise2ClearMakesRoom();
+        promise2NothingStaysBehindClear();
         promise3States();
         promise4Acts();
         promise5WhatItWas();
@@ -30,6 +31,7 @@ public final class PromiseEdgesTest {
         promise14ChangeInItsPlaceAlone();
         promise15WithinZero();
         promise15WithinOne();
+        promise15WithinOneOfThree();
         promise15WithinFive();
         promise15WithinEndsEarlier();
         promise15WhateverWasChosenBefore();
@@ -119,6 +121,37 @@ public final class PromiseEdgesTest {
             CHECK.due("act 0 is told", x.tell(state, 0), 0);
             CHECK.due("theirs for the least", x.best(state), state < 3 ? 1 : 4);
         }
+    }
+
+    private static void promise2NothingStaysBehindClear() {
+        CHECK.about("Promise 2: All STATES go");
+        PlanValues bare = cleared();
+        for (int state = 0; state < 5; state++) {
+            bare.state(state % 2 == 0);
+        }
+        CHECK.alike("states without acts, as on a new object", bare, sides("totot"));
+        PlanValues x = cleared();
+        for (int state = 0; state < 5; state++) {
+            x.state(state % 2 == 0);
+            x.act(state, state % 2 == 0 ? 9 : -9);
+        }
+        for (int state = 0; state < 5; state++) {
+            CHECK.answer("the value of its only act", x, x.value(state), state % 2 == 0 ? 9 : -9, 1);
+            CHECK.due("it is best", x.best(state), 1);
+        }
+    }
+
+    /** Everything that an object may keep for later calls has been asked for before it is cleared. */
+    private static PlanValues cleared() {
+        PlanValues x = Examples.full();
+        for (int state = 0; state < 5; state++) {
+            x.value(state);
+            x.reply(state, 0);
+            x.reply(state, 1);
+            x.run(state);
+        }
+        x.clear();
+        return x;
     }
 
     private static void promise3States() {
@@ -454,6 +487,20 @@ public final class PromiseEdgesTest {
         int[] due = {8, -33, 42, -42, 47};
         for (int state = 0; state < 5; state++) {
             CHECK.answer("1 of state " + state, x, x.within(state, 1), due[state], 1);
+        }
+    }
+
+    private static void promise15WithinOneOfThree() {
+        CHECK.about("Promise 15: each ACT chosen as OURS, THEIRS like to");
+        int[][] orders = {{1, 2, 3}, {1, 3, 2}, {2, 1, 3}, {2, 3, 1}, {3, 1, 2}, {3, 2, 1}};
+        for (int[] pays : orders) {
+            PlanValues x = sides("ot");
+            for (int pay : pays) {
+                x.act(0, pay);
+                x.act(1, pay);
+            }
+            CHECK.answer("the greatest of three", x, x.within(0, 1), 3, 1);
+            CHECK.answer("the least of three", x, x.within(1, 1), 1, 1);
         }
     }
 
