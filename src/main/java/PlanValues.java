@@ -504,8 +504,10 @@ public final class PlanValues {
             for (int state = 0; state < walks.states; state++) {
                 if (walks.theirs[state] == theirs) {
                     int liked = walks.likedAct(state, plan[state], numbers);
-                    better |= liked != plan[state];
-                    plan[state] = liked;
+                    if (liked != plan[state]) {
+                        plan[state] = liked;
+                        better = true;
+                    }
                 }
             }
             return better;

@@ -58,6 +58,10 @@ public final class FaceTest {
         for (String one : FACE) {
             names.add(one.substring(one.indexOf(' ') + 1, one.indexOf('(')));
         }
+        for (Method m : PlanValues.class.getDeclaredMethods()) {
+            CHECK.that(m + " is public or has a name of its own",
+                    Modifier.isPublic(m.getModifiers()) || !names.contains(m.getName()));
+        }
         for (Class<?> inside : PlanValues.class.getDeclaredClasses()) {
             CHECK.that(inside + " is static", Modifier.isStatic(inside.getModifiers()));
             for (Method m : inside.getDeclaredMethods()) {

@@ -6,7 +6,9 @@ import java.nio.file.Files;
 import java.nio.file.Path;
 import java.util.ArrayList;
 import java.util.List;
+import java.util.Map;
 import java.util.Set;
+import java.util.TreeMap;
 import java.util.regex.Matcher;
 import java.util.regex.Pattern;
 
@@ -16,6 +18,7 @@ public final class LanguageTest {
     private static final Path FILE = Path.of("src/main/java/PlanValues.java");
     private static final Set<String> LIBRARY = Set.of("Arrays.fill", "System.arraycopy", "Math.max", "Math.abs", "Integer.bitCount");
     private static final int MOST_LINES = 60;
+    private static final int MOST_DEEP = 8;
 
     public static void main(String[] args) throws IOException {
         String code = withoutComments(Files.readString(FILE));
@@ -25,6 +28,7 @@ public final class LanguageTest {
         rule5StaticFields();
         rule6Exceptions(code);
         rule9Loops(code);
+        rules8And11Depth(code);
         rule11Sizes(code);
         rule13Nothing(code);
         CHECK.end("LanguageTest");
@@ -111,6 +115,40 @@ public final class LanguageTest {
             CHECK.that("a counter against a bound: " + head, head.matches("int (\\w+) = [^;]+; \\1 <=? \\w+(\\.\\w+)?(\\[\\w+\\])?( [*&][^;]*)?; \\1\\+\\+"));
         }
         CHECK.due("all loops are looked at", found, code.split("\\bfor\\b", -1).length - 1);
+    }
+
+    /** Methods of one name in several classes count as one that calls all that they call, so none is missed. */
+    private static void rules8And11Depth(String code) {
+        CHECK.about("LANGUAGE.md 8, 11: no recursion, and calls go at most eight deep");
+        Map<String, String> bodies = new TreeMap<>();
+        Matcher method = Pattern.compile("(?ms)^( {4,8})(?:public|private)[^\n;={]*?(\\w+)\\([^)\n]*\\) \\{\n(.*?)^\\1\\}").matcher(code);
+        while (method.find()) {
+            bodies.merge(method.group(2), method.group(3), String::concat);
+        }
+        int declared = 0;
+        for (Class<?> one : classes()) {
+            for (Method m : one.getDeclaredMethods()) {
+                declared++;
+                CHECK.that(m + " is looked at", bodies.containsKey(m.getName()));
+            }
+        }
+        CHECK.that("there are methods", declared > 0);
+        for (String name : bodies.keySet()) {
+            CHECK.that(name + " goes at most eight deep", isWithin(name, MOST_DEEP, bodies));
+        }
+    }
+
+    private static boolean isWithin(String name, int deep, Map<String, String> bodies) {
+        if (deep == 0) {
+            return false;
+        }
+        Matcher call = Pattern.compile("\\b(\\w+)\\(").matcher(bodies.get(name));
+        while (call.find()) {
+            if (bodies.containsKey(call.group(1)) && !isWithin(call.group(1), deep - 1, bodies)) {
+                return false;
+            }
+        }
+        return true;
     }
 
     private static void rule11Sizes(String code) {
